@@ -54,6 +54,12 @@ public final class StepsTest {
         expect.same("an and of a literal and it turned is not told", x.implied(NONE, NONE, NONE, 5), 2);
         expect.same("till one of them is", x.implied(2, NONE, NONE, 5), 0);
         expect.same("and cannot be true", x.implied(10, NONE, NONE, 5), 3);
+        ProofLines y = new ProofLines();
+        y.gate(Scene.AND, 1, 1);
+        y.gate(Scene.AND, 2, 0);
+        expect.same("an and of truths, the first gate", y.implied(NONE, NONE, NONE, 1), 1);
+        expect.same("an and of FALSE", y.implied(NONE, NONE, NONE, 2), 0);
+        expect.same("its truth is a conflict", y.implied(4, NONE, NONE, 2), 3);
     }
 
     private static void eitherSteps(Expect expect) {
@@ -190,6 +196,11 @@ public final class StepsTest {
         expect.same("all follows from a clause of nothing", x.good(1), true);
         expect.same("such a clause too", x.good(2), true);
         expect.same("an equality too", x.good(3), true);
+        x.clear();
+        Scene.clause(x, 2, 3);
+        x.clear();
+        Scene.clause(x, 2);
+        expect.same("what was in a line before it was cleared does not matter", x.good(0), false);
     }
 
     private static void goodEqualities(Expect expect) {
@@ -357,6 +368,11 @@ public final class StepsTest {
         expect.same("a bad line", x.shorten(1), NONE);
         expect.same("a bad line tells the claim", x.shorten(2), NONE);
         expect.same("nothing changes", Scene.lines(x), "[1 2 2 2][0 1 2]");
+        x.clear();
+        Scene.clause(x, 2);
+        x.equalLine(2, 2);
+        expect.same("the first line is bad", x.shorten(1), NONE);
+        expect.same("nothing changes, neither", Scene.lines(x), "[0 1 2][1 2 2 2]");
     }
 
     private static void provesAnEqualityOfGates(Expect expect) {

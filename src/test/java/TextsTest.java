@@ -69,6 +69,9 @@ public final class TextsTest {
         expect.same("what there is", Scene.lines(x), "[0 2 2 5][1 2 21 0][0 0][1 2 40 40]");
         expect.same("line ends alone", Scene.read(x, "\n\n"), 4);
         expect.same("an empty tape behind lines", x.read(), 4);
+        expect.same("a text", Scene.read(x, "c+1+2"), 5);
+        expect.same("what was on the tape before does not matter", Scene.read(x, "c+1"), 6);
+        expect.same("a number neither", Scene.read(x, "c+"), -1 - 1);
     }
 
     private static void readBlanks(Expect expect) {
@@ -114,6 +117,7 @@ public final class TextsTest {
         fault(expect, 3, "c" + (char) 11, 1);
         fault(expect, 3, "c" + (char) 0, 1);
         fault(expect, 3, "" + (char) 255, 0);
+        fault(expect, 3, "" + (char) (128 + 'c'), 0);
         fault(expect, 3, "= +1 +2 =", 8);
         fault(expect, 3, "= +1 x", 5);
     }
