@@ -50,7 +50,8 @@ public final class FaceTest {
         for (Class<?> inside : face.getDeclaredClasses()) {
             expect.same(inside + " is static", Modifier.isStatic(inside.getModifiers()), true);
             for (Method method : inside.getDeclaredMethods()) {
-                expect.same(inside + " has a public name, " + method.getName(), names.contains(method.getName()), false);
+                String name = method.getName();
+                expect.same(inside + " has a public name, " + name, names.contains(name), false);
             }
         }
     }

@@ -60,14 +60,16 @@ public final class ModelTest {
 
     private int literal() {
         if (random.nextInt(40) == 0) {
-            return new int[] {-1, -2, 2 * model.gates.size(), 80, Integer.MAX_VALUE, Integer.MIN_VALUE}[random.nextInt(6)];
+            int[] wrong = {-1, -2, 2 * model.gates.size(), 80, Integer.MAX_VALUE, Integer.MIN_VALUE};
+            return wrong[random.nextInt(wrong.length)];
         }
         return random.nextInt(2 * model.gates.size());
     }
 
     private int lineNumber() {
         if (random.nextInt(30) == 0 || model.lines.isEmpty()) {
-            return new int[] {-1, model.lines.size(), 24, Integer.MAX_VALUE, Integer.MIN_VALUE}[random.nextInt(5)];
+            int[] wrong = {-1, model.lines.size(), 24, Integer.MAX_VALUE, Integer.MIN_VALUE};
+            return wrong[random.nextInt(wrong.length)];
         }
         return random.nextInt(model.lines.size());
     }
@@ -186,7 +188,7 @@ public final class ModelTest {
         if (Integer.valueOf(0).equals(Expect.outcome(() -> x.check(claim))) && x.count(1) <= 4) {
             proved++;
             for (long inputs = 0; inputs < 1L << x.count(1); inputs++) {
-                expect.same("run " + run + ": a proved claim, " + claim + ", at " + inputs, x.holds(claim, inputs), true);
+                expect.same("run " + run + ": proved " + claim + " at " + inputs, x.holds(claim, inputs), true);
             }
         }
     }
