@@ -8,6 +8,8 @@ final class Expect {
     }
 
     private final String test;
+    private String words = "";
+    private int comparedOfWords = 0;
     private int compared = 0;
     private int wrong = 0;
 
@@ -15,11 +17,37 @@ final class Expect {
         this.test = test;
     }
 
+    /** What is compared from here on shows whether these words of the document hold. */
+    void words(String ofTheDocument) {
+        endOfWords();
+        words = "[" + ofTheDocument + "] ";
+        comparedOfWords = 0;
+    }
+
+    /** Runs the parts of a test; one that an exception ends is wrong, and hides none of the others. */
+    void each(Runnable... parts) {
+        for (Runnable part : parts) {
+            try {
+                part.run();
+            } catch (RuntimeException e) {
+                same("the rest of it", e, "no exception");
+            }
+        }
+    }
+
+    private void endOfWords() {
+        if (!words.isEmpty() && comparedOfWords == 0) {
+            wrong++;
+            System.out.println(test + ": " + words + "nothing is compared");
+        }
+    }
+
     void same(String what, Object got, Object due) {
         compared++;
+        comparedOfWords++;
         if (!Objects.equals(got, due)) {
             wrong++;
-            System.out.println(test + ": " + what + " answered " + got + ", due is " + due);
+            System.out.println(test + ": " + words + what + " answered " + got + ", due is " + due);
         }
     }
 
@@ -49,6 +77,7 @@ final class Expect {
     }
 
     void end() {
+        endOfWords();
         System.out.println(test + ": " + compared + " answers, " + wrong + " wrong");
         if (wrong != 0 || compared == 0) {
             System.exit(1);
