@@ -246,6 +246,10 @@ public final class EdgesOfEarlyPromisesTest {
         expect.same("one good line, a claim that follows", x.check(1), 0);
         expect.same("one good line, a claim that does not", x.check(2), 2);
         expect.same("nor when it is turned", x.check(3), 2);
+        x.gate(Scene.EITHER, 2, 2);
+        expect.same("a claim that needs a line", x.check(7), 2);
+        Scene.clause(x, 7, 3);
+        expect.same("a claim that follows by the last line", x.check(7), 0);
     }
 
     /** The same words of the document, where the answer is the greatest. */

@@ -299,10 +299,10 @@ public final class EdgesOfLatePromisesTest {
             expect.same("line with " + high, Scene.text(x), "c +1\n");
         }
         ProofLines y = new ProofLines();
-        for (int u : new int[] {-1, 255, 127, 128, 'c' + 128, 'c' - 128}) {
+        for (int u : new int[] {-1, 255, 127, 128, ' ' + 128, ' ' - 128, '\n' + 128}) {
             y.unit('c');
             y.unit(u);
-            expect.same("no blank, " + u, y.read(), -1 - 1);
+            expect.same("no blank and no line end, " + u, y.read(), -1 - 1);
         }
     }
 

@@ -75,6 +75,10 @@ public final class EdgesOfTextsTest {
         good(12, "c ", "[0 0]");
         good(12, " ".repeat(490) + "c", "[0 0]");
         fault(12, "c +1 2", 5);
+        for (int other : new int[] {0, 8, 11, 12, 14, 31, 33, 128 + 9, 128 + 13, 128 + 32, 255}) {
+            fault(12, "c" + (char) other, 1);
+            fault(12, "c +1" + (char) other + "+2", 4);
+        }
     }
 
     private static String withBlanks(String[] parts, int place, String blanks) {
